@@ -7,7 +7,7 @@ public final class OracleTest {
     private static final Due DUE = new Due();
 
     public static void main(String[] args) {
-        int runs = args.length > 0 ? Integer.parseInt(args[0]) : 400;
+        int runs = args.length > 0 ? Integer.parseInt(args[0]) : 300;
         for (int run = 0; run < runs; run++) {
             village(new Random(run), run);
         }
@@ -179,14 +179,16 @@ public final class OracleTest {
     private static void village(Random r, int run) {
         OnlyUpward x = new OnlyUpward();
         Oracle o = new Oracle();
-        both(x, o, text(r), "run " + run);
-        for (int i = 0; i < 300; i++) {
-            if (r.nextInt(4) == 0) {
-                change(r, run, x, o);
-            } else if (r.nextBoolean()) {
-                look(r, run, x, o);
-            } else {
-                reckon(r, run, x, o);
+        for (int texts = 0; texts < 4; texts++) {
+            both(x, o, text(r), "run " + run);
+            for (int i = 0; i < 100; i++) {
+                if (r.nextInt(4) == 0) {
+                    change(r, run, x, o);
+                } else if (r.nextBoolean()) {
+                    look(r, run, x, o);
+                } else {
+                    reckon(r, run, x, o);
+                }
             }
         }
     }

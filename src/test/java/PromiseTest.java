@@ -28,6 +28,7 @@ public final class PromiseTest {
         feedAndBack();
         readWhole();
         syntax();
+        leftovers();
         room();
         roomOfTokens();
         laterFaults();
@@ -41,6 +42,7 @@ public final class PromiseTest {
         asking();
         soonAndAll();
         cheap();
+        cheapHourByHour();
         cheapOrder();
         hearing();
         lostAndMissed();
@@ -182,6 +184,31 @@ public final class PromiseTest {
         fault("say if age == 1;", 1, 7);
         fault("say if 1 == 1 or or 1 == 1;", 1, 17);
         fine("ask if not not mine+yours*hour/crowd-1<=(1)and 1!=2 or 2<3;");
+    }
+
+    /** What was on the tape behind its end, or in a faulty text, is not read. */
+    private static void leftovers() {
+        String[] texts = {"say if 1 ==", "place abcdefghi", "person a 12345", "place a ;"};
+        int[] numbers = {1, 1, 1, 1};
+        int[] places = {9, 14, 13, 8};
+        for (int i = 0; i < texts.length; i++) {
+            OnlyUpward x = new OnlyUpward();
+            Due.feed(x, texts[i]);
+            x.back(1);
+            DUE.is("all but the last of " + texts[i], x.read(), numbers[i]);
+            DUE.is("its place", x.place(), places[i]);
+        }
+        fault("say if 1 ==", 1, 11);
+        OnlyUpward y = new OnlyUpward();
+        Due.read(y, "say if not 1 == 1");
+        Due.read(y, "place l; person a 9; person b 1; say if 1 == 1;");
+        DUE.is("a law behind a faulty one", y.may(0, 1, 0, false), 1);
+        Due.read(y, VILLAGE);
+        Due.read(y, "place l; place m; person a 9; person b 1; thing t 1; at b m 0 23;");
+        DUE.is("no law of an older text", y.may(0, 1, 0, false), 0);
+        DUE.is("no wall of an older text", y.earshot(0, 0), 1);
+        DUE.is("nobody knows what one knew in an older text", y.knows(0, 24), 0);
+        DUE.is("no stay of an older text", y.where(0, 5), 0);
     }
 
     private static void room() {
@@ -348,6 +375,7 @@ public final class PromiseTest {
         law("2 < 1", 0, 0);
         law("2 != 2", 0, 0);
         law("2 != 3", 0, 1);
+        law("1 == 2 or 1 == 1 and 0 < 1 + 1 * (1 + 1 * (1 + 1 * (1 + 1 * (1 + 1 * (1 + 1 * (1 + 1 * 1)))))) - 7", 0, 1);
         OnlyUpward two = Due.village("place l; person a 9; person b 1; say if 1 == 2; say if hour == 3; ask if 1 == 2; ask if hour == 4;");
         DUE.is("some law of saying", two.may(0, 1, 3, false), 1);
         DUE.is("no law of saying", two.may(0, 1, 4, false), 0);
@@ -613,6 +641,19 @@ public final class PromiseTest {
         Due.read(x, "place l; person a 1; person b 2; thing t 1; thing u 1; act s u 3;");
         steps(x, "a new text", 1, 0, 1, 0, 1, 1);
         steps(x, "another thing", 0, 1, 2, 2, 3, 21020);
+        Due.read(x, "place l; person a 3; person b 2; thing t 1; thing u 1; act s u 3;");
+        DUE.is("the same thing and person of a new text", x.cheap(0, 1, 2, 2, 0), 1);
+    }
+
+    private static void cheapHourByHour() {
+        OnlyUpward say = Due.village("place l; place m; place n; thin l m; thin m n; person a 1; person b 2; person c 3; person d 4;"
+                + "person e 5; thing t 1; at b l 0 23; at c n 0 23; at d m 0 23; at e m 0 23;");
+        steps(say, "a said thing is said on in the next hour", 2, 0, 1, 22, 2, 220001, 230064);
+        DUE.is("not in the same one", say.cheap(2, 0, 1, 23, 0), -2);
+        OnlyUpward show = Due.village("place l; place m; thin l m; person a 9; person b 2; person c 3; thing t 1; act s t 4;"
+                + "at c m 0 23;");
+        steps(show, "a shown thing is said on in the next hour", 2, 0, 1, 22, 5, 221000, 230020);
+        DUE.is("not in the same hour", show.cheap(2, 0, 1, 23, 0), -2);
     }
 
     private static void cheapOrder() {
