@@ -57,6 +57,7 @@ final class EdgesOfFaults {
         edges.textsBehindTexts();
         edges.reckonedAnew();
         edges.fullTextsBehindFullTexts();
+        edges.manyFaultsBehindOneAnother();
     }
 
     private static String joined(String[] tokens, int n) {
@@ -559,5 +560,14 @@ final class EdgesOfFaults {
             got.append(number).append(' ').append(x.may(0, 1, 0, false)).append(x.may(1, 0, 0, false)).append(' ');
         }
         cases.are("Term I, text: full texts one behind another, each with its LAW", got.toString(), "0 00 0 00 0 10 0 01 0 00 0 00 0 00 0 00 ");
+    }
+
+    private void manyFaultsBehindOneAnother() {
+        OnlyUpward x = new OnlyUpward();
+        for (int texts = 0; texts < 70; texts++) {
+            Due.read(x, "say if 1 == ((((((1+");
+        }
+        Due.read(x, LAWFUL);
+        cases.are("Term I, text: behind seventy faulty ones", whole(x), whole(Due.village(LAWFUL)));
     }
 }
