@@ -489,7 +489,7 @@ public final class OnlyUpward {
             return NONE;
         }
         cheapest.aim(person, thing);
-        int least = cheapest.least(told, h0, knowers);
+        int least = cheapest.leastWay(told, h0, knowers);
         if (least == Cheapest.IMPOSSIBLE) {
             return NEVER;
         }
@@ -1936,8 +1936,13 @@ public final class OnlyUpward {
             }
         }
 
-        /** The least way from an hour on; each call inside it is at a later hour. */
-        int least(World world, int hour, int known) {
+        /** The least way from an hour on; IMPOSSIBLE: there is none. */
+        int leastWay(World world, int hour, int known) {
+            return least(world, hour, known);
+        }
+
+        /** Each call inside it is at a later hour, and none is behind the last one. */
+        private int least(World world, int hour, int known) {
             if (hasBit(known, person)) {
                 return 0;
             }

@@ -6,8 +6,12 @@ import java.lang.reflect.Method;
 import java.lang.reflect.Modifier;
 import java.nio.file.Files;
 import java.nio.file.Path;
+import java.util.ArrayList;
+import java.util.List;
+import java.util.Map;
 import java.util.Random;
 import java.util.Set;
+import java.util.TreeMap;
 import java.util.TreeSet;
 import java.util.regex.Matcher;
 import java.util.regex.Pattern;
@@ -88,6 +92,7 @@ public final class FaceTest {
         }
         DUE.is("some twelve classes: " + n, n <= 12, true);
         methodsAreShort(code);
+        recursionIsPrivate(code);
         for (Class<?> inside : OnlyUpward.class.getDeclaredClasses()) {
             DUE.is("static: " + inside, Modifier.isStatic(inside.getModifiers()), true);
             int fields = 0;
@@ -109,6 +114,51 @@ public final class FaceTest {
             DUE.is("sixty lines at most: " + m.group().lines().findFirst().get(), m.group(2).lines().count() <= 60, true);
         }
         DUE.is("methods looked at: " + n, n > 100, true);
+    }
+
+    /** Rule 8: methods of one class that call one another are private. */
+    private static void recursionIsPrivate(String code) {
+        Map<String, String> bodies = new TreeMap<>();
+        Set<String> open = new TreeSet<>();
+        Matcher m = Pattern.compile("(?ms)^    private static final class (\\w+)|^( {4}| {8})(?=\\w)([\\w\\[\\] ]*?)(\\w+)\\([^;{]*\\) \\{\n(.*?)^\\2\\}")
+                .matcher(code);
+        String owner = "";
+        while (m.find()) {
+            if (m.group(1) != null) {
+                owner = m.group(1);
+                continue;
+            }
+            bodies.put(owner + "." + m.group(4), m.group(5));
+            if (!m.group(3).contains("private")) {
+                open.add(owner + "." + m.group(4));
+            }
+        }
+        int found = 0;
+        for (String method : bodies.keySet()) {
+            if (called(bodies, method).contains(method)) {
+                found++;
+                DUE.is("recursion, not private: " + method, open.contains(method), false);
+            }
+        }
+        DUE.is("methods that call themselves or one another, those of CHEAP", found, 3);
+    }
+
+    /** All methods of its class that one calls, those that they call, and so on. */
+    private static Set<String> called(Map<String, String> bodies, String method) {
+        Set<String> all = new TreeSet<>();
+        List<String> waiting = new ArrayList<>(List.of(method));
+        while (!waiting.isEmpty()) {
+            String one = waiting.remove(waiting.size() - 1);
+            String owner = one.substring(0, one.indexOf('.') + 1);
+            Matcher m = Pattern.compile("(?<![.\\w])(\\w+)\\(").matcher(bodies.get(one));
+            while (m.find()) {
+                String next = owner + m.group(1);
+                if (bodies.containsKey(next) && all.add(next)) {
+                    waiting.add(next);
+                }
+            }
+        }
+        return all;
     }
 
     private static Object[] wildArguments(Random r, Method m) {
